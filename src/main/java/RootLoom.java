@@ -475,7 +475,7 @@ public final class RootLoom {
         private final int[] localTypes = new int[LOCALS];
         private boolean wellTyped = true;
 
-        /** The bit of the local, where an instruction is a LOAD of one of a pair type; else 0. */
+        /** Of a LOAD: the bit of its local if that is of a pair type there, else 0. */
         private final int[] pairLoads = new int[INSTRUCTIONS];
         /** Has a place more, so that the one behind the last may be asked. */
         private final int[] mattersBefore = new int[INSTRUCTIONS + 1];
@@ -521,32 +521,33 @@ public final class RootLoom {
             open = 0;
             wellTyped = true;
             begin(source.bodyOf[f]);
+            // No recursion: a body may be 150 nodes deep.
             for (int turn = 0; turn < MOST_TURNS && open > 0 && wellTyped; turn++) {
-                goOn();
+                int at = open - 1;
+                if (openParts[at] == PARTS_EACH) {
+                    open--;
+                    finish(openNodes[at], at);
+                } else {
+                    goDown(at);
+                }
             }
             if (!wellTyped || takeType() != source.resultOf[f]) {
                 return false;
             }
-            emit(DO_RET, 0);
+            code.add(DO_RET, 0);
             return true;
         }
 
+        /** A part is older than its node, so never more than all nodes are open. */
         private void begin(int n) {
             openNodes[open] = n;
             openParts[open] = 0;
             open++;
         }
 
-        /** No recursion: a body may be 150 nodes deep. */
-        private void goOn() {
-            int at = open - 1;
+        private void goDown(int at) {
             int n = openNodes[at];
             int k = openParts[at];
-            if (k == PARTS_EACH) {
-                open--;
-                finish(n, at);
-                return;
-            }
             openParts[at] = k + 1;
             int child = source.childOf(n, k);
             if (child != NONE) {
@@ -560,17 +561,17 @@ public final class RootLoom {
             int kind = source.kindOf[n];
             if (kind == NODE_IF && k == 1) {
                 takeInt();
-                openJumps[at] = emit(DO_ZERO, 0);
+                openJumps[at] = code.add(DO_ZERO, 0);
             } else if (kind == NODE_IF && k == 2) {
                 openTypes[at] = takeType();
-                int jump = emit(DO_JUMP, 0);
+                int jump = code.add(DO_JUMP, 0);
                 code.operand[openJumps[at]] = code.count;
                 openJumps[at] = jump;
             } else if (kind == NODE_LET && k == 2) {
                 weaveStore(source.partOf(n, 0));
             } else if (kind == NODE_THEN && k == 1) {
                 takeType();
-                emit(DO_DROP, 0);
+                code.add(DO_DROP, 0);
             }
         }
 
@@ -578,22 +579,22 @@ public final class RootLoom {
         private void finish(int n, int at) {
             int a = source.partOf(n, 0);
             switch (source.kindOf[n]) {
-                case NODE_NUMBER: emit(DO_PUSH, a); putType(INT); break;
-                case NODE_NIL: emit(DO_NULL, 0); putType(a); break;
+                case NODE_NUMBER: code.add(DO_PUSH, a); putType(INT); break;
+                case NODE_NIL: code.add(DO_NULL, 0); putType(a); break;
                 case NODE_LOCAL: weaveLoad(a); break;
                 case NODE_ADD: weaveSum(DO_ADD); break;
                 case NODE_SUB: weaveSum(DO_SUB); break;
                 case NODE_LESS: weaveSum(DO_LESS); break;
                 case NODE_PAIR: weaveNew(a); break;
-                case NODE_LEFT: emit(DO_LEFT, 0); putType(source.leftOf[takePairType()]); break;
-                case NODE_RIGHT: emit(DO_RIGHT, 0); putType(source.rightOf[takePairType()]); break;
-                case NODE_EMPTY: emit(DO_EMPTY, 0); takePairType(); putType(INT); break;
+                case NODE_LEFT: code.add(DO_LEFT, 0); putType(source.leftOf[takePairType()]); break;
+                case NODE_RIGHT: code.add(DO_RIGHT, 0); putType(source.rightOf[takePairType()]); break;
+                case NODE_EMPTY: code.add(DO_EMPTY, 0); takePairType(); putType(INT); break;
                 case NODE_IF: joinWays(at); break;
                 case NODE_LET: localTypes[a] = NONE; break;
                 case NODE_CALL: weaveCall(a, source.argumentsOf(n)); break;
                 case NODE_PUTLEFT: weavePut(DO_PUTLEFT, source.leftOf); break;
                 case NODE_PUTRIGHT: weavePut(DO_PUTRIGHT, source.rightOf); break;
-                case NODE_OUT: emit(DO_PUT, 0); takeInt(); putType(INT); break;
+                case NODE_OUT: code.add(DO_PUT, 0); takeInt(); putType(INT); break;
                 default: break;
             }
         }
@@ -601,40 +602,40 @@ public final class RootLoom {
         private void weaveLoad(int local) {
             int t = localTypes[local];
             must(t != NONE);
-            int at = emit(DO_LOAD, local);
+            int at = code.add(DO_LOAD, local);
             pairLoads[at] = t > INT ? 1 << local : 0;
             putType(t);
         }
 
         private void weaveStore(int local) {
             must(localTypes[local] == NONE);
-            emit(DO_STORE, local);
+            code.add(DO_STORE, local);
             localTypes[local] = takeType();
         }
 
         private void weaveSum(int operation) {
-            emit(operation, 0);
+            code.add(operation, 0);
             takeInt();
             takeInt();
             putType(INT);
         }
 
         private void weaveNew(int t) {
-            emitMapped(DO_NEW, t);
+            addMapped(DO_NEW, t);
             must(takeType() == source.rightOf[t]);
             must(takeType() == source.leftOf[t]);
             putType(t);
         }
 
         private void weavePut(int operation, int[] partTypes) {
-            emit(operation, 0);
+            code.add(operation, 0);
             int put = takeType();
             must(put == partTypes[takePairType()]);
             putType(put);
         }
 
         private void weaveCall(int f, int arguments) {
-            emitMapped(DO_CALL, f);
+            addMapped(DO_CALL, f);
             must(source.bodyOf[f] != NONE && arguments == source.parametersOf[f]);
             for (int k = arguments - 1; k >= 0 && wellTyped; k--) {
                 must(takeType() == source.parameterType(f, k));
@@ -648,14 +649,8 @@ public final class RootLoom {
             putType(openTypes[at]);
         }
 
-        private int emit(int operation, int a) {
+        private void addMapped(int operation, int a) {
             int at = code.add(operation, a);
-            pairLoads[at] = 0;
-            return at;
-        }
-
-        private void emitMapped(int operation, int a) {
-            int at = emit(operation, a);
             int bits = 0;
             for (int k = 0; k < height; k++) {
                 if (pileTypes[k] > INT) {
@@ -712,7 +707,10 @@ public final class RootLoom {
                 if (code.operation[i] == DO_STORE) {
                     behind &= ~(1 << code.operand[i]);
                 }
-                mattersBefore[i] = behind | pairLoads[i];
+                if (code.operation[i] == DO_LOAD) {
+                    behind |= pairLoads[i];
+                }
+                mattersBefore[i] = behind;
             }
         }
 
@@ -728,9 +726,9 @@ public final class RootLoom {
 
     /** The PAIRs of a run, numbered from 1 on, so that NIL is none of them. */
     private static final class Pairs {
+        final int[] lefts = new int[PAIRS + 1];
+        final int[] rights = new int[PAIRS + 1];
         private final int[] types = new int[PAIRS + 1];
-        private final int[] lefts = new int[PAIRS + 1];
-        private final int[] rights = new int[PAIRS + 1];
         /** All numbers of pairs: the first of them, as many as there are PAIRs, are in use. */
         private final int[] numbers = new int[PAIRS];
         private int count = 0;
@@ -779,7 +777,7 @@ public final class RootLoom {
 
         void endCollection(int[] leftOf, int[] rightOf) {
             // Each pair comes into this row once, so it ends though it grows on the way.
-            for (int k = 0; k < keptCount; k++) {
+            for (int k = 0; k < keptCount && k < PAIRS; k++) {
                 int pair = kept[k];
                 if (leftOf[types[pair]] != INT) {
                     keep(lefts[pair]);

@@ -14,7 +14,10 @@ public final class RunningTest {
         overByHeap();
         overByFrames();
         overBySteps();
+        argumentsInOrder();
         eachRunBeginsAnew();
+        largestHeap();
+        roomIsUsedAgain();
         collectedOnce();
         collectedByLocals();
         collectedByPile();
@@ -310,6 +313,104 @@ public final class RunningTest {
         latest("14: no words of the run before", x, 1, 3, 0, 0, 0, 1, 1);
         x.run(f, 0, 0, 0);
         CHECK.due("15: nothing put out by the run before", x.out(0), 0);
+        x.force(3);
+        x.run(f, 0, 0, 0);
+        latest("14: collected", x, 1, 8, 1, 9, 6, 1, 0);
+        x.force(0);
+        x.run(f, 0, 0, 0);
+        latest("14: what stayed in the run before does not count", x, 1, 8, 0, 9, 0, 1, 0);
+        afterFramesLeftOpen();
+    }
+
+    /** A run that is over in deep frames leaves nothing on the piles of the next one's. */
+    private static void afterFramesLeftOpen() {
+        RootLoom x = fresh();
+        Pen pen = new Pen(x);
+        x.function(1, 1, 0, 0, 0);
+        int n = pen.local(0);
+        int one = pen.number(1);
+        int more = pen.pair(1, n, pen.call(0, pen.sub(n, one)));
+        x.body(0, pen.choose(n, more, pen.nil(1)));
+        x.lay();
+        x.heap(600);
+        CHECK.due("13: too deep", x.run(0, -1, 0, 0), 4);
+        x.force(1);
+        for (int k = 0; k < 20; k++) {
+            CHECK.due("13: deep enough", x.run(0, 23, 0, 0), 1);
+            latest("13: deep enough", x, 1, 23 * 10 + 4, 46, 69, 66, 24, 0);
+        }
+        CHECK.due("17: the first", x.value(0, 1), 23);
+        CHECK.due("17: the 20th", x.value((1 << 19) - 1, 20), 4);
+    }
+
+    private static void argumentsInOrder() {
+        RootLoom x = fresh();
+        Pen pen = new Pen(x);
+        x.function(0, 3, 0, 1, 0);
+        int digits = pen.add(pen.add(pen.sum(pen.local(0), 100), pen.sum(pen.left(pen.local(1)), 10)), pen.local(2));
+        x.body(0, digits);
+        int f = laidAs(x, 0, pen.add(pen.number(4000), pen.call(0, pen.number(3), pen.list(2), pen.number(1))));
+        CHECK.due("13: a CALL with three ARGs", x.run(f, 0, 0, 0), 1);
+        CHECK.due("17: each in its place, and the value below", x.value(0, 0), 4321);
+    }
+
+    /** So many pairs with the number in front of a list. */
+    private static int before(Pen pen, int list, int number, int many) {
+        int made = list;
+        for (int k = 0; k < many; k++) {
+            made = pen.pair(1, number, made);
+        }
+        return made;
+    }
+
+    /** 8 pairs in each of 23 frames, and 16 or 17 in the first: 200 or 201. */
+    private static void largestHeap() {
+        RootLoom x = fresh();
+        Pen pen = new Pen(x);
+        x.function(1, 1, 0, 0, 0);
+        int n = pen.local(0);
+        int deeper = pen.choose(n, pen.call(0, pen.sub(n, pen.number(1))), pen.nil(1));
+        x.body(0, before(pen, deeper, n, 8));
+        int five = pen.number(5);
+        int call = pen.call(0, pen.number(22));
+        int eight = before(pen, n, five, 8);
+        int full = laidAs(x, 1, pen.let(0, call, pen.let(1, eight, before(pen, pen.local(1), five, 8))));
+        int above = laidAs(x, 1, pen.let(0, call, pen.let(1, eight, before(pen, pen.local(1), five, 9))));
+        x.heap(600);
+        CHECK.due("11: 200 pairs", x.run(full, 0, 0, 0), 1);
+        latest("11: 200 pairs", x, 1, x.latest(1), 0, 600, 0, 24, 0);
+        CHECK.due("17: of the 17th", x.value((1 << 16) - 1, 17), 22);
+        CHECK.due("11: 201 pairs", x.run(above, 0, 0, 0), 3);
+        latest("11: 201 pairs", x, 3, x.latest(1), 1, 600, 600, 24, 0);
+        x.heap(597);
+        CHECK.due("11: 200 pairs in 597 words", x.run(full, 0, 0, 0), 3);
+    }
+
+    /** A list grows while other pairs come and go: whenever it is collected, the list is whole. */
+    private static void roomIsUsedAgain() {
+        RootLoom x = fresh();
+        Pen pen = new Pen(x);
+        x.function(1, 2, 0, 1, 0);
+        int n = pen.local(0);
+        int list = pen.local(1);
+        int lost = pen.list(77, 78);
+        int longer = pen.pair(1, n, list);
+        int held = pen.let(2, longer, pen.then(lost, pen.local(2)));
+        int more = pen.then(lost, pen.call(0, pen.sub(n, pen.number(1)), held));
+        x.body(0, pen.choose(n, more, list));
+        int f = laidAs(x, 1, pen.call(0, pen.number(20), pen.nil(1)));
+        for (int words = 66; words <= 600; words += 41) {
+            for (int forced = 0; forced <= 7; forced++) {
+                x.heap(words);
+                x.force(forced);
+                CHECK.due("13: heap " + words + ", force " + forced, x.run(f, 0, 0, 0), 1);
+                for (int k = 0; k < 20; k++) {
+                    CHECK.due("17: item " + k, x.value((1 << k) - 1, k + 1), k + 1);
+                }
+            }
+        }
+        x.heap(63);
+        CHECK.due("13: 20 pairs and two lost ones do not fit into 63 words", x.run(f, 0, 0, 0), 3);
     }
 
     private static void collectedOnce() {

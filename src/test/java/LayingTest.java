@@ -618,6 +618,12 @@ public final class LayingTest {
         // LOAD 0, CALL 1
         CHECK.due("10: of a CALL, in its own function", x.map(1, 0), 4);
         CHECK.due("10: what the CALL takes", x.map(1, 1), 1);
+        int g = x.function(0, 0, 0, 0, 0);
+        x.body(g, one);
+        x.body(0, pen.add(pen.call(g), third));
+        x.lay();
+        CHECK.due("10: of a CALL that is the first instruction", x.map(0, 0), 4);
+        CHECK.due("10: which takes nothing", x.map(0, 1), 0);
     }
 
     private static void mapOfPile() {

@@ -34,15 +34,15 @@ public final class LayingTest {
         CHECK.end();
     }
 
-    private static RootLoom fresh() {
-        RootLoom x = new RootLoom();
+    private static Loom fresh() {
+        Loom x = new Loom();
         x.type(1, 0, 1);
         x.type(2, 1, 0);
         return x;
     }
 
     /** Rows of operation and operand, of all that is laid down. */
-    private static void row(String name, RootLoom x, int... want) {
+    private static void row(String name, Loom x, int... want) {
         CHECK.due(name + ": lay()", x.lay(), want.length / 2);
         CHECK.due(name + ": laid(0)", x.laid(0), want.length / 2);
         for (int i = 0; i < want.length / 2 && i < x.laid(0); i++) {
@@ -52,7 +52,7 @@ public final class LayingTest {
     }
 
     private static void everyKindIsLaidDown() {
-        RootLoom x = fresh();
+        Loom x = fresh();
         Pen pen = new Pen(x);
         x.function(0, 2, 0, 1, 0);
         int a = pen.local(0);
@@ -84,7 +84,7 @@ public final class LayingTest {
     }
 
     private static void jumpsInsideJumps() {
-        RootLoom x = fresh();
+        Loom x = fresh();
         Pen pen = new Pen(x);
         x.function(0, 0, 0, 0, 0);
         x.body(0, pen.number(0));
@@ -102,7 +102,7 @@ public final class LayingTest {
     }
 
     private static void functionByFunction() {
-        RootLoom x = fresh();
+        Loom x = fresh();
         Pen pen = new Pen(x);
         x.function(0, 0, 0, 0, 0);
         x.function(0, 0, 0, 0, 0);
@@ -119,7 +119,7 @@ public final class LayingTest {
     }
 
     private static void layWithoutBodies() {
-        RootLoom x = fresh();
+        Loom x = fresh();
         CHECK.due("6: no function", x.lay(), 0);
         CHECK.due("7: none, but laid down", x.laid(0), 0);
         CHECK.due("7: no NEWs", x.laid(1), 0);
@@ -131,7 +131,7 @@ public final class LayingTest {
     }
 
     private static void mostInstructions() {
-        RootLoom x = fresh();
+        Loom x = fresh();
         Pen pen = new Pen(x);
         x.function(0, 0, 0, 0, 0);
         int one = pen.number(1);
@@ -173,7 +173,7 @@ public final class LayingTest {
     }
 
     private static void mostValues() {
-        RootLoom x = fresh();
+        Loom x = fresh();
         Pen pen = new Pen(x);
         x.function(0, 0, 0, 0, 0);
         x.function(0, 0, 0, 0, 0);
@@ -192,7 +192,7 @@ public final class LayingTest {
         CHECK.due("7: nothing is laid down", x.laid(2), -1);
     }
 
-    private static int valuesOf(int kind, int a, int b, int c, RootLoom x) {
+    private static int valuesOf(int kind, int a, int b, int c, Loom x) {
         x.body(0, x.node(kind, a, b, c));
         x.lay();
         return x.laid(2);
@@ -200,7 +200,7 @@ public final class LayingTest {
 
     /** Parts that need three values each, so that it is seen where another one waits below. */
     private static void valuesOfEachKind() {
-        RootLoom x = fresh();
+        Loom x = fresh();
         Pen pen = new Pen(x);
         x.function(0, 3, 0, 1, 0);
         int one = pen.number(1);
@@ -239,7 +239,7 @@ public final class LayingTest {
     }
 
     private static void tooLargeBeforeIll() {
-        RootLoom x = fresh();
+        Loom x = fresh();
         Pen pen = new Pen(x);
         x.function(0, 0, 0, 0, 0);
         x.function(0, 0, 0, 0, 0);
@@ -261,20 +261,20 @@ public final class LayingTest {
         CHECK.due("6: 17 ARGs are too large", x.lay(), -2);
     }
 
-    private static void ill(String what, RootLoom x, int result, int body) {
+    private static void ill(String what, Loom x, int result, int body) {
         bodyOf(what, x, result, body, -3);
     }
 
     /** Functions 0 to 2 answer an INT, a 1, a 2; their parameters are an INT and a 1. */
-    private static void bodyOf(String what, RootLoom x, int result, int body, int want) {
+    private static void bodyOf(String what, Loom x, int result, int body, int want) {
         for (int f = 0; f < 3; f++) {
             x.body(f, f == result ? body : -1);
         }
         CHECK.due("6: " + what, x.lay(), want);
     }
 
-    private static RootLoom withThree() {
-        RootLoom x = fresh();
+    private static Loom withThree() {
+        Loom x = fresh();
         for (int f = 0; f < 3; f++) {
             x.function(f, 2, 0, 1, 0);
         }
@@ -282,7 +282,7 @@ public final class LayingTest {
     }
 
     private static void illOperands() {
-        RootLoom x = withThree();
+        Loom x = withThree();
         Pen pen = new Pen(x);
         int one = pen.number(1);
         int nil = pen.nil(1);
@@ -304,7 +304,7 @@ public final class LayingTest {
     }
 
     private static void illPairs() {
-        RootLoom x = withThree();
+        Loom x = withThree();
         Pen pen = new Pen(x);
         int one = pen.number(1);
         int nil1 = pen.nil(1);
@@ -332,7 +332,7 @@ public final class LayingTest {
     }
 
     private static void illIf() {
-        RootLoom x = withThree();
+        Loom x = withThree();
         Pen pen = new Pen(x);
         int one = pen.number(1);
         int nil1 = pen.nil(1);
@@ -347,7 +347,7 @@ public final class LayingTest {
     }
 
     private static void illLocals() {
-        RootLoom x = withThree();
+        Loom x = withThree();
         Pen pen = new Pen(x);
         int one = pen.number(1);
         int two = pen.local(2);
@@ -366,7 +366,7 @@ public final class LayingTest {
     }
 
     private static void goodLocals() {
-        RootLoom x = withThree();
+        Loom x = withThree();
         Pen pen = new Pen(x);
         int one = pen.number(1);
         int two = pen.local(2);
@@ -388,7 +388,7 @@ public final class LayingTest {
     }
 
     private static void illCalls() {
-        RootLoom x = withThree();
+        Loom x = withThree();
         Pen pen = new Pen(x);
         int one = pen.number(1);
         int nil1 = pen.nil(1);
@@ -412,7 +412,7 @@ public final class LayingTest {
     }
 
     private static void illResult() {
-        RootLoom x = withThree();
+        Loom x = withThree();
         Pen pen = new Pen(x);
         ill("a pair for an INT", x, 0, pen.nil(1));
         ill("an INT for a pair", x, 1, pen.number(0));
@@ -425,7 +425,7 @@ public final class LayingTest {
     }
 
     private static void layForgetsTheRun() {
-        RootLoom x = fresh();
+        Loom x = fresh();
         Pen pen = new Pen(x);
         x.function(0, 0, 0, 0, 0);
         x.body(0, pen.out(pen.number(5)));
@@ -444,7 +444,7 @@ public final class LayingTest {
     }
 
     private static void laidAnswers() {
-        RootLoom x = withThree();
+        Loom x = withThree();
         Pen pen = new Pen(x);
         CHECK.due("7: nothing yet", x.laid(1), -1);
         int one = pen.number(1);
@@ -461,7 +461,7 @@ public final class LayingTest {
     }
 
     /** 1 for an index, 2 for an argument, 0 if nothing is thrown. */
-    private static int thrown(RootLoom x, int i, int what) {
+    private static int thrown(Loom x, int i, int what) {
         try {
             x.instruction(i, what);
             return 0;
@@ -473,7 +473,7 @@ public final class LayingTest {
     }
 
     private static void instructionThrows() {
-        RootLoom x = fresh();
+        Loom x = fresh();
         Pen pen = new Pen(x);
         CHECK.due("8: nothing laid down", thrown(x, 0, 0), 1);
         x.function(0, 0, 0, 0, 0);
@@ -497,7 +497,7 @@ public final class LayingTest {
     }
 
     private static void entryAnswers() {
-        RootLoom x = fresh();
+        Loom x = fresh();
         Pen pen = new Pen(x);
         x.function(0, 0, 0, 0, 0);
         x.body(0, pen.number(1));
@@ -517,7 +517,7 @@ public final class LayingTest {
     }
 
     private static void mapAnswers() {
-        RootLoom x = withThree();
+        Loom x = withThree();
         Pen pen = new Pen(x);
         CHECK.due("10: nothing laid down", x.map(0, 0), -1);
         bodyOf("a NEW and a CALL", x, 1,
@@ -539,7 +539,7 @@ public final class LayingTest {
     }
 
     private static void mapOfLocals() {
-        RootLoom x = fresh();
+        Loom x = fresh();
         Pen pen = new Pen(x);
         x.function(0, 3, 1, 0, 1);
         int one = pen.number(1);
@@ -583,7 +583,7 @@ public final class LayingTest {
     }
 
     private static void mapOverBranches() {
-        RootLoom x = fresh();
+        Loom x = fresh();
         Pen pen = new Pen(x);
         x.function(0, 3, 1, 0, 1);
         int one = pen.number(1);
@@ -627,7 +627,7 @@ public final class LayingTest {
     }
 
     private static void mapOfPile() {
-        RootLoom x = fresh();
+        Loom x = fresh();
         Pen pen = new Pen(x);
         x.type(3, 1, 1);
         x.function(3, 1, 1, 0, 0);
@@ -660,7 +660,7 @@ public final class LayingTest {
     }
 
     private static void deepBodies() {
-        RootLoom x = fresh();
+        Loom x = fresh();
         Pen pen = new Pen(x);
         x.function(0, 0, 0, 0, 0);
         int deep = pen.number(3);

@@ -8,7 +8,7 @@ public final class ModelTest {
     private static final int PROGRAMS = 6000;
     private static final int ENOUGH_WRONG = 20;
 
-    private final RootLoom loom = new RootLoom();
+    private final Relay loom = new Relay();
     private final Model model = new Model();
     private final int program;
     private long seed;

@@ -1,8 +1,8 @@
 /** Writes nodes by name; a node that can't be made is a fault of the test itself. */
 final class Pen {
-    final RootLoom loom;
+    final Loom loom;
 
-    Pen(RootLoom loom) {
+    Pen(Loom loom) {
         this.loom = loom;
     }
 

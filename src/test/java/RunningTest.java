@@ -32,21 +32,21 @@ public final class RunningTest {
         CHECK.end();
     }
 
-    private static RootLoom fresh() {
-        RootLoom x = new RootLoom();
+    private static Loom fresh() {
+        Loom x = new Loom();
         x.type(1, 0, 1);
         x.type(2, 1, 0);
         return x;
     }
 
-    private static void latest(String name, RootLoom x, int... want) {
+    private static void latest(String name, Loom x, int... want) {
         for (int what = 0; what < want.length; what++) {
             CHECK.due(name + ": latest(" + what + ")", x.latest(what), want[what]);
         }
     }
 
     /** A function of no parameters with that body, laid down; the others stay. */
-    private static int laidAs(RootLoom x, int result, int body) {
+    private static int laidAs(Loom x, int result, int body) {
         int f = x.function(result, 0, 0, 0, 0);
         x.body(f, body);
         if (x.lay() < 0) {
@@ -56,7 +56,7 @@ public final class RunningTest {
     }
 
     private static void heapAnswers() {
-        RootLoom x = fresh();
+        Loom x = fresh();
         CHECK.due("11: 2", x.heap(2), false);
         CHECK.due("11: 3", x.heap(3), true);
         CHECK.due("11: 600", x.heap(600), true);
@@ -68,7 +68,7 @@ public final class RunningTest {
     }
 
     private static void heapHoldsForRunsThatCome() {
-        RootLoom x = fresh();
+        Loom x = fresh();
         Pen pen = new Pen(x);
         int f = laidAs(x, 1, pen.list(1, 2, 3));
         x.heap(9);
@@ -89,7 +89,7 @@ public final class RunningTest {
     }
 
     private static void forceAnswers() {
-        RootLoom x = fresh();
+        Loom x = fresh();
         CHECK.due("12: 0", x.force(0), true);
         CHECK.due("12: 1", x.force(1), true);
         CHECK.due("12: MAX", x.force(Integer.MAX_VALUE), true);
@@ -98,7 +98,7 @@ public final class RunningTest {
     }
 
     private static void forceCountsNewsAndCalls() {
-        RootLoom x = fresh();
+        Loom x = fresh();
         Pen pen = new Pen(x);
         int one = pen.number(1);
         int g = laidAs(x, 0, one);
@@ -129,7 +129,7 @@ public final class RunningTest {
     }
 
     private static void runRefuses() {
-        RootLoom x = fresh();
+        Loom x = fresh();
         Pen pen = new Pen(x);
         x.function(0, 1, 0, 0, 0);
         x.function(0, 1, 1, 0, 0);
@@ -157,13 +157,13 @@ public final class RunningTest {
         CHECK.due("13: its second", x.value(0, 0), 9);
     }
 
-    private static int valueOf(RootLoom x, int f, int first, int second) {
+    private static int valueOf(Loom x, int f, int first, int second) {
         x.run(f, first, second, 0);
         return x.value(0, 0);
     }
 
     private static void arithmetic() {
-        RootLoom x = fresh();
+        Loom x = fresh();
         Pen pen = new Pen(x);
         for (int f = 0; f < 3; f++) {
             x.function(0, 2, 0, 0, 0);
@@ -188,7 +188,7 @@ public final class RunningTest {
     }
 
     private static void choices() {
-        RootLoom x = fresh();
+        Loom x = fresh();
         Pen pen = new Pen(x);
         x.function(0, 1, 0, 0, 0);
         x.body(0, pen.choose(pen.local(0), pen.number(10), pen.number(20)));
@@ -204,7 +204,7 @@ public final class RunningTest {
     }
 
     private static void overByNil() {
-        RootLoom x = fresh();
+        Loom x = fresh();
         Pen pen = new Pen(x);
         int nil1 = pen.nil(1);
         int nil2 = pen.nil(2);
@@ -226,7 +226,7 @@ public final class RunningTest {
     }
 
     private static void overByHeap() {
-        RootLoom x = fresh();
+        Loom x = fresh();
         Pen pen = new Pen(x);
         int f = laidAs(x, 1, pen.list(1, 2, 3, 4));
         x.heap(9);
@@ -242,7 +242,7 @@ public final class RunningTest {
     }
 
     private static void overByFrames() {
-        RootLoom x = fresh();
+        Loom x = fresh();
         Pen pen = new Pen(x);
         x.function(0, 1, 0, 0, 0);
         int n = pen.local(0);
@@ -259,7 +259,7 @@ public final class RunningTest {
     }
 
     private static void overBySteps() {
-        RootLoom x = fresh();
+        Loom x = fresh();
         Pen pen = new Pen(x);
         int deep = pen.number(7);
         for (int k = 0; k < 96; k++) {
@@ -284,7 +284,7 @@ public final class RunningTest {
     }
 
     /** The 6001st instruction would be a NEW: it is not begun, so nothing is collected for it. */
-    private static void notBegunNotCollected(RootLoom x, Pen pen) {
+    private static void notBegunNotCollected(Loom x, Pen pen) {
         int one = pen.number(1);
         int f = laidAs(x, 1, pen.pair(1, pen.add(pen.sum(pen.call(0), 59), pen.sum(one, 49)), pen.nil(1)));
         // 59 * 99 + 58, 97, an ADD, NULL: 5998.
@@ -300,7 +300,7 @@ public final class RunningTest {
     }
 
     private static void eachRunBeginsAnew() {
-        RootLoom x = fresh();
+        Loom x = fresh();
         Pen pen = new Pen(x);
         int f = laidAs(x, 1, pen.list(1, 2, 3));
         int g = laidAs(x, 0, pen.out(pen.number(4)));
@@ -324,7 +324,7 @@ public final class RunningTest {
 
     /** A run that is over in deep frames leaves nothing on the piles of the next one's. */
     private static void afterFramesLeftOpen() {
-        RootLoom x = fresh();
+        Loom x = fresh();
         Pen pen = new Pen(x);
         x.function(1, 1, 0, 0, 0);
         int n = pen.local(0);
@@ -344,7 +344,7 @@ public final class RunningTest {
     }
 
     private static void argumentsInOrder() {
-        RootLoom x = fresh();
+        Loom x = fresh();
         Pen pen = new Pen(x);
         x.function(0, 3, 0, 1, 0);
         int digits = pen.add(pen.add(pen.sum(pen.local(0), 100), pen.sum(pen.left(pen.local(1)), 10)), pen.local(2));
@@ -365,7 +365,7 @@ public final class RunningTest {
 
     /** 8 pairs in each of 23 frames, and 16 or 17 in the first: 200 or 201. */
     private static void largestHeap() {
-        RootLoom x = fresh();
+        Loom x = fresh();
         Pen pen = new Pen(x);
         x.function(1, 1, 0, 0, 0);
         int n = pen.local(0);
@@ -386,9 +386,8 @@ public final class RunningTest {
         CHECK.due("11: 200 pairs in 597 words", x.run(full, 0, 0, 0), 3);
     }
 
-    /** A list grows while other pairs come and go: whenever it is collected, the list is whole. */
-    private static void roomIsUsedAgain() {
-        RootLoom x = fresh();
+    /** Function 0 makes a list longer while other pairs come and go; function 1, the answer, begins it. */
+    private static int growing(Loom x) {
         Pen pen = new Pen(x);
         x.function(1, 2, 0, 1, 0);
         int n = pen.local(0);
@@ -398,10 +397,16 @@ public final class RunningTest {
         int held = pen.let(2, longer, pen.then(lost, pen.local(2)));
         int more = pen.then(lost, pen.call(0, pen.sub(n, pen.number(1)), held));
         x.body(0, pen.choose(n, more, list));
-        int f = laidAs(x, 1, pen.call(0, pen.number(20), pen.nil(1)));
+        return laidAs(x, 1, pen.call(0, pen.number(20), pen.nil(1)));
+    }
+
+    /** Whenever it is collected, the list is whole. */
+    private static void roomIsUsedAgain() {
         for (int words = 66; words <= 600; words += 41) {
+            Loom x = fresh();
+            int f = growing(x);
+            x.heap(words);
             for (int forced = 0; forced <= 7; forced++) {
-                x.heap(words);
                 x.force(forced);
                 CHECK.due("13: heap " + words + ", force " + forced, x.run(f, 0, 0, 0), 1);
                 for (int k = 0; k < 20; k++) {
@@ -409,12 +414,14 @@ public final class RunningTest {
                 }
             }
         }
+        Loom x = fresh();
+        int f = growing(x);
         x.heap(63);
         CHECK.due("13: 20 pairs and two lost ones do not fit into 63 words", x.run(f, 0, 0, 0), 3);
     }
 
     private static void collectedOnce() {
-        RootLoom x = fresh();
+        Loom x = fresh();
         Pen pen = new Pen(x);
         int lost = pen.pair(1, pen.number(1), pen.nil(1));
         int f = laidAs(x, 1, pen.then(lost, pen.then(lost, lost)));
@@ -434,7 +441,7 @@ public final class RunningTest {
     }
 
     private static void collectedByLocals() {
-        RootLoom x = fresh();
+        Loom x = fresh();
         Pen pen = new Pen(x);
         int lost = pen.pair(1, pen.number(1), pen.nil(1));
         int list = pen.list(5, 6);
@@ -462,7 +469,7 @@ public final class RunningTest {
     }
 
     private static void collectedByPile() {
-        RootLoom x = fresh();
+        Loom x = fresh();
         Pen pen = new Pen(x);
         int one = pen.number(1);
         x.type(3, 1, 1);
@@ -481,7 +488,7 @@ public final class RunningTest {
     }
 
     private static void collectedInCallers() {
-        RootLoom x = fresh();
+        Loom x = fresh();
         Pen pen = new Pen(x);
         int one = pen.number(1);
         int lost = pen.pair(1, one, pen.nil(1));
@@ -516,7 +523,7 @@ public final class RunningTest {
     }
 
     private static void collectedThroughPairs() {
-        RootLoom x = fresh();
+        Loom x = fresh();
         Pen pen = new Pen(x);
         int one = pen.number(1);
         int lost = pen.pair(1, one, pen.nil(1));
@@ -549,7 +556,7 @@ public final class RunningTest {
 
     /** A CALL that would make a 25th frame is begun, so it is collected before it. */
     private static void collectedAtTheLastCall() {
-        RootLoom x = fresh();
+        Loom x = fresh();
         Pen pen = new Pen(x);
         x.function(0, 0, 0, 0, 0);
         x.body(0, pen.then(pen.list(1), pen.call(0)));
@@ -562,7 +569,7 @@ public final class RunningTest {
 
     /** INTs that look like pairs lead nowhere. */
     private static void collectedLeavesIntsAlone() {
-        RootLoom x = fresh();
+        Loom x = fresh();
         Pen pen = new Pen(x);
         x.function(0, 3, 0, 0, 0);
         int lost = pen.pair(1, pen.number(1), pen.pair(1, pen.number(2), pen.nil(1)));
@@ -582,7 +589,7 @@ public final class RunningTest {
     }
 
     private static void latestAnswers() {
-        RootLoom x = fresh();
+        Loom x = fresh();
         Pen pen = new Pen(x);
         for (int what = 0; what <= 6; what++) {
             CHECK.due("14: no run, " + what, x.latest(what), -1);
@@ -606,7 +613,7 @@ public final class RunningTest {
     }
 
     private static void outAnswers() {
-        RootLoom x = fresh();
+        Loom x = fresh();
         Pen pen = new Pen(x);
         x.function(0, 1, 0, 0, 0);
         int a = pen.local(0);
@@ -637,7 +644,7 @@ public final class RunningTest {
     }
 
     private static void tellAnswers() {
-        RootLoom x = fresh();
+        Loom x = fresh();
         Pen pen = new Pen(x);
         int f = laidAs(x, 2, pen.pair(2, pen.list(11, 12), pen.number(13)));
         CHECK.due("16: no run", x.tell(0, 0), -1);
@@ -671,7 +678,7 @@ public final class RunningTest {
 
     /** Twenty steps in a circle of three. */
     private static void tellInCircles() {
-        RootLoom x = fresh();
+        Loom x = fresh();
         Pen pen = new Pen(x);
         int l = pen.local(0);
         int last = pen.right(pen.right(l));

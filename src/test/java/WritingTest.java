@@ -17,7 +17,7 @@ public final class WritingTest {
     }
 
     private static void newObject() {
-        RootLoom x = new RootLoom();
+        Loom x = new Loom();
         CHECK.due("1: body of no function", x.body(0, -1), false);
         CHECK.due("1: no node to be a part", x.node(16, 0, 0, 0), -1);
         CHECK.due("1: nothing is laid down", x.laid(0), -1);
@@ -36,7 +36,7 @@ public final class WritingTest {
 
     /** 60 words are 20 pairs: a list of 20 is made, one of 21 is not; FORCE 0 collects nothing. */
     private static void firstHeap() {
-        RootLoom x = new RootLoom();
+        Loom x = new Loom();
         Pen pen = new Pen(x);
         x.type(1, 0, 1);
         x.function(1, 0, 0, 0, 0);
@@ -66,19 +66,19 @@ public final class WritingTest {
     }
 
     private static void otherObject() {
-        RootLoom x = new RootLoom();
+        Loom x = new Loom();
         x.function(0, 0, 0, 0, 0);
         x.body(0, x.node(0, 3, 0, 0));
         x.lay();
         x.run(0, 0, 0, 0);
-        RootLoom y = new RootLoom();
+        Loom y = new Loom();
         CHECK.due("1: another object knows nothing of it", y.laid(0), -1);
         CHECK.due("1: nor of its run", y.latest(0), -1);
         CHECK.due("1: which still stands", x.value(0, 0), 3);
     }
 
     private static void typeAnswers() {
-        RootLoom x = new RootLoom();
+        Loom x = new Loom();
         for (int t = -2; t <= 9; t++) {
             CHECK.due("2: type(" + t + ", 0, 0)", x.type(t, 0, 0), t >= 1 && t <= 7);
             CHECK.due("2: type(1, " + t + ", 0)", x.type(1, t, 0), t >= 0 && t <= 7);
@@ -89,7 +89,7 @@ public final class WritingTest {
     }
 
     private static void typeTakesEffect() {
-        RootLoom x = new RootLoom();
+        Loom x = new Loom();
         Pen pen = new Pen(x);
         x.function(3, 0, 0, 0, 0);
         int one = pen.number(1);
@@ -110,11 +110,11 @@ public final class WritingTest {
         CHECK.due("2: with the types of then", x.tell(0, 1), 1);
         CHECK.due("2: map of then", x.map(2, 1), 1);
         CHECK.due("2: laid down anew it is wrong", x.lay(), -3);
-        otherNumberOtherType(new RootLoom());
+        otherNumberOtherType(new Loom());
     }
 
     /** Types of the same parts are not the same type. */
-    private static void otherNumberOtherType(RootLoom x) {
+    private static void otherNumberOtherType(Loom x) {
         Pen pen = new Pen(x);
         x.function(1, 0, 0, 0, 0);
         x.body(0, pen.nil(2));
@@ -124,7 +124,7 @@ public final class WritingTest {
     }
 
     private static void functionAnswers() {
-        RootLoom x = new RootLoom();
+        Loom x = new Loom();
         CHECK.due("3: result -1", x.function(-1, 0, 0, 0, 0), -1);
         CHECK.due("3: result 8", x.function(8, 0, 0, 0, 0), -1);
         CHECK.due("3: -1 parameters", x.function(0, -1, 0, 0, 0), -1);
@@ -146,7 +146,7 @@ public final class WritingTest {
     }
 
     private static void functionParameters() {
-        RootLoom x = new RootLoom();
+        Loom x = new Loom();
         Pen pen = new Pen(x);
         x.function(0, 3, 0, 0, 0);
         x.body(0, pen.sub(pen.sub(pen.local(0), pen.local(1)), pen.local(2)));
@@ -163,7 +163,7 @@ public final class WritingTest {
     }
 
     private static void nodeNumbers() {
-        RootLoom x = new RootLoom();
+        Loom x = new Loom();
         x.function(0, 0, 0, 0, 0);
         CHECK.due("4: kind -1", x.node(-1, 0, 0, 0), -1);
         CHECK.due("4: kind 18", x.node(18, 0, 0, 0), -1);
@@ -189,12 +189,12 @@ public final class WritingTest {
         CHECK.due("4: THEN", x.node(17, 0, 1, 999), 19);
     }
 
-    private static void none(RootLoom x, int kind, int a, int b, int c) {
+    private static void none(Loom x, int kind, int a, int b, int c) {
         CHECK.due("4: node(" + kind + ", " + a + ", " + b + ", " + c + ")", x.node(kind, a, b, c), -1);
     }
 
     private static void nodeParts() {
-        RootLoom x = new RootLoom();
+        Loom x = new Loom();
         x.function(0, 0, 0, 0, 0);
         x.node(0, 1, 0, 0);
         x.node(13, 0, -1, 0);
@@ -240,7 +240,7 @@ public final class WritingTest {
     }
 
     private static void nodeLimit() {
-        RootLoom x = new RootLoom();
+        Loom x = new Loom();
         for (int k = 0; k < 150; k++) {
             CHECK.due("4: node " + k, x.node(0, k, 0, 0), k);
         }
@@ -254,7 +254,7 @@ public final class WritingTest {
     }
 
     private static void bodyAnswers() {
-        RootLoom x = new RootLoom();
+        Loom x = new Loom();
         x.function(0, 0, 0, 0, 0);
         x.node(0, 5, 0, 0);
         x.node(13, 0, -1, 0);
@@ -271,7 +271,7 @@ public final class WritingTest {
     }
 
     private static void bodyLeavesWhatIsLaid() {
-        RootLoom x = new RootLoom();
+        Loom x = new Loom();
         x.function(0, 0, 0, 0, 0);
         x.node(0, 5, 0, 0);
         x.node(0, 6, 0, 0);

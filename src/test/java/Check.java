@@ -1,6 +1,8 @@
 /** Counts answers that are not as due, and ends a test with what it counted. */
 final class Check {
     private final String test;
+    private String words = "";
+    private int sentences = 0;
     private int asked = 0;
     private int wrong = 0;
 
@@ -8,11 +10,17 @@ final class Check {
         this.test = test;
     }
 
+    /** The words of the document by which the answers that follow are due. */
+    void sentence(String quoted) {
+        words = " [" + quoted + "]";
+        sentences++;
+    }
+
     void due(String call, long got, long want) {
         asked++;
         if (got != want) {
             wrong++;
-            System.out.println(test + ": " + call + " answered " + got + ", due is " + want);
+            System.out.println(test + words + ": " + call + " answered " + got + ", due is " + want);
         }
     }
 
@@ -25,7 +33,8 @@ final class Check {
     }
 
     void end() {
-        System.out.println(test + ": " + asked + " answers, " + wrong + " not as due");
+        String told = sentences == 0 ? "" : sentences + " sentences, ";
+        System.out.println(test + ": " + told + asked + " answers, " + wrong + " not as due");
         if (wrong != 0) {
             System.exit(1);
         }

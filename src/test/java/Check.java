@@ -10,10 +10,16 @@ final class Check {
         this.test = test;
     }
 
-    /** The words of the document by which the answers that follow are due. */
+    /** The words of the document by which the answers that follow are due; two dots for words left out. */
     void sentence(String quoted) {
         words = " [" + quoted + "]";
         sentences++;
+    }
+
+    /** The same, with the case that is looked at. */
+    void sentence(String quoted, String here) {
+        sentence(quoted);
+        words = " [" + quoted + ", here: " + here + "]";
     }
 
     void due(String call, long got, long want) {

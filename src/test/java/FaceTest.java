@@ -94,8 +94,12 @@ public final class FaceTest {
     /** Rules 1, 5 and 11 of the language, as far as the classes tell. */
     private static void classesInside() {
         Set<String> faceNames = new TreeSet<>();
-        for (Method method : RootLoom.class.getDeclaredMethods()) {
+        for (Method method : RootLoom.class.getMethods()) {
             faceNames.add(method.getName());
+        }
+        for (Method method : RootLoom.class.getDeclaredMethods()) {
+            boolean hides = Modifier.isPrivate(method.getModifiers()) && faceNames.contains(method.getName());
+            CHECK.due(method.getName() + " is private with a name of the face", hides, false);
         }
         Class<?>[] inside = RootLoom.class.getDeclaredClasses();
         CHECK.due("twelve classes at most", inside.length < 12, true);
@@ -103,8 +107,8 @@ public final class FaceTest {
             CHECK.due(one.getName() + " is static", Modifier.isStatic(one.getModifiers()), true);
             CHECK.due(one.getName() + " is not public", Modifier.isPublic(one.getModifiers()), false);
             for (Method method : one.getDeclaredMethods()) {
-                CHECK.due(one.getName() + "." + method.getName() + " bears a name of the face",
-                        faceNames.contains(method.getName()), false);
+                boolean hides = Modifier.isPrivate(method.getModifiers()) && faceNames.contains(method.getName());
+                CHECK.due(one.getName() + "." + method.getName() + " is private with a name of the face", hides, false);
                 CHECK.due(method.getName() + " takes seven at most", method.getParameterCount() <= 7, true);
             }
             for (Field field : one.getDeclaredFields()) {

@@ -255,7 +255,7 @@ public final class LayTermsTest {
 
     /** Each kind at the top of a body that is filled up to 400 and to 401. */
     private static void mostInstructionsByEachKind() {
-        CHECK.sentence("what they make when LAID DOWN .. more than 400 instructions");
+        CHECK.sentence("more than 400 instructions", "by each kind");
         for (int kind = 0; kind <= 17; kind++) {
             if (kind == 13) {
                 continue;
@@ -297,7 +297,7 @@ public final class LayTermsTest {
     }
 
     private static void mostInstructionsOfSix() {
-        CHECK.sentence("more than 400 instructions .. one row");
+        CHECK.sentence("more than 400 instructions", "of six functions");
         Loom x = fresh();
         Pen pen = new Pen(x);
         int one = pen.number(1);
@@ -322,7 +322,7 @@ public final class LayTermsTest {
     }
 
     private static void farMoreInstructions() {
-        CHECK.sentence("more than 400 instructions .. what wraps around");
+        CHECK.sentence("more than 400 instructions", "more than an int can count");
         for (int kind : new int[] {3, 10, 17}) {
             Loom x = withOne();
             Pen pen = new Pen(x);
@@ -372,7 +372,7 @@ public final class LayTermsTest {
 
     /** Where nothing waits below, 16 values stay 16. */
     private static void mostValuesWithinPiles() {
-        CHECK.sentence("a pile may have more than 16 values .. nothing waits below");
+        CHECK.sentence("a pile may have more than 16 values", "nothing waits below");
         Loom x = withOne();
         Pen pen = new Pen(x);
         int one = pen.number(1);
@@ -392,7 +392,7 @@ public final class LayTermsTest {
     }
 
     private static void noPileOfSeveralFunctions() {
-        CHECK.sentence("a pile may have more than 16 values .. the PILE of its frame");
+        CHECK.sentence("the PILE of its frame");
         Loom x = fresh();
         Pen pen = new Pen(x);
         for (int f = 0; f < 3; f++) {
@@ -406,7 +406,7 @@ public final class LayTermsTest {
         CHECK.due("laid(2)", x.laid(2), 16);
         CHECK.due("run(2)", x.run(2, 0, 0, 0), 1);
         CHECK.due("value", x.value(0, 0), 16 * 9);
-        CHECK.sentence("laid .. 2: the most values that a pile may have");
+        CHECK.sentence("2: the most values that a pile may have");
         x.body(0, one);
         x.lay();
         CHECK.due("the most of all functions is in the middle", x.laid(2), 9);
@@ -416,7 +416,7 @@ public final class LayTermsTest {
     }
 
     private static void tooLargeElseIll() {
-        CHECK.sentence("TOO LARGE if .., or ..; else ILL if one of the functions with a BODY is not WELL TYPED");
+        CHECK.sentence("else ILL if one of the functions with a BODY is not WELL TYPED", "too large and ill");
         Loom x = withOne();
         Pen pen = new Pen(x);
         int one = pen.number(1);

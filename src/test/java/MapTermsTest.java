@@ -111,7 +111,7 @@ public final class MapTermsTest {
     }
 
     private static void behindAJump() {
-        CHECK.sentence("from the one that is done next .. JUMP to M");
+        CHECK.sentence("from the one that is done next", "by a JUMP");
         Loom x = fresh();
         Pen pen = new Pen(x);
         int one = pen.number(1);
@@ -294,7 +294,7 @@ public final class MapTermsTest {
     }
 
     private static void emptyPile() {
-        CHECK.sentence("the values on the pile .. none");
+        CHECK.sentence("the values on the pile", "none");
         Loom x = fresh();
         Pen pen = new Pen(x);
         int one = pen.number(1);
@@ -314,7 +314,7 @@ public final class MapTermsTest {
     }
 
     private static void pileInBranches() {
-        CHECK.sentence("the values on the pile .. in the ways of an IF");
+        CHECK.sentence("the values on the pile", "in the ways of an IF");
         Loom x = fresh();
         Pen pen = new Pen(x);
         int one = pen.number(1);
@@ -336,7 +336,7 @@ public final class MapTermsTest {
     }
 
     private static void typesAsAtLay() {
-        CHECK.sentence("what is laid down stays as it is .. of pair types");
+        CHECK.sentence("what is laid down stays as it is", "maps");
         Loom x = new Loom();
         Pen pen = new Pen(x);
         x.type(1, 0, 1);

@@ -17,6 +17,7 @@ public final class NodeTermsTest {
         expressionsButArg();
         numbers();
         nils();
+        typesOfLocals();
         sums();
         wrapAround();
         less();
@@ -298,6 +299,27 @@ public final class NodeTermsTest {
         row("NIL 7", x, seventh, pen.nil(7), 1, 0);
     }
 
+    private static void typesOfLocals() {
+        CHECK.sentence("2 LOCAL a: LOAD a: that of the local");
+        for (int t = 0; t <= 7; t++) {
+            for (int result = 0; result <= 7; result++) {
+                Loom x = new Loom();
+                Pen pen = new Pen(x);
+                x.function(result, 3, t, 7 - t, t);
+                boolean first = result == t;
+                boolean second = result == 7 - t;
+                CHECK.due("a first " + t + " for a " + result, layAlone(x, 0, pen.local(0)), first ? 2 : RootLoom.ILL);
+                CHECK.due("a second " + (7 - t) + " for a " + result, layAlone(x, 0, pen.local(1)),
+                        second ? 2 : RootLoom.ILL);
+                CHECK.due("a third " + t + " for a " + result, layAlone(x, 0, pen.local(2)), first ? 2 : RootLoom.ILL);
+                if (first) {
+                    CHECK.due("LOAD", x.instruction(0, 0), 2);
+                    CHECK.due("of local 2", x.instruction(0, 1), 2);
+                }
+            }
+        }
+    }
+
     private static void sums() {
         CHECK.sentence("3 ADD a b, 4 SUB, 5 LESS, of INTs: a, b, ADD, SUB or LESS: INT");
         Loom x = fresh();
@@ -387,13 +409,14 @@ public final class NodeTermsTest {
     }
 
     private static void empty() {
-        CHECK.sentence("EMPTY (1 if it is NIL, else 0)");
+        CHECK.sentence("9 EMPTY a, of a pair type: a, EMPTY: INT");
         Loom x = fresh();
         Pen pen = new Pen(x);
         int nil = pen.nil(1);
         row("EMPTY", x, 0, pen.empty(nil), 1, 0, 9, 0);
         hasType("EMPTY", x, pen.empty(nil), 0);
         isIll("EMPTY of an INT", x, pen.empty(pen.number(0)));
+        CHECK.sentence("EMPTY (1 if it is NIL, else 0)");
         CHECK.due("EMPTY of NIL", valueOf(x, pen.empty(nil)), 1);
         CHECK.due("EMPTY of a PAIR", valueOf(x, pen.empty(pen.list(1))), 0);
         CHECK.due("EMPTY of a PAIR of 0 and NIL", valueOf(x, pen.empty(pen.list(0))), 0);

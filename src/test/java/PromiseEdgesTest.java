@@ -19,6 +19,7 @@ public final class PromiseEdgesTest {
         layForgetsTheRun();
         laidRanges();
         instructionRanges();
+        instructionNumbers();
         instructionHasNoA();
         entryRanges();
         entryWithoutABody();
@@ -28,8 +29,10 @@ public final class PromiseEdgesTest {
         forceRanges();
         forceInTheRunsThatCome();
         runArguments();
+        runTellsHowItWasOver();
         runRefuses();
         latestRanges();
+        latestMost();
         latestNever();
         outRanges();
         tellRanges();
@@ -165,42 +168,44 @@ public final class PromiseEdgesTest {
         CHECK.due("laid down anew it is ill", x.lay(), RootLoom.ILL);
     }
 
-    /** Each kind that asks for a type's halves, ill and well typed in turn as the types change. */
+    /** Each kind that asks for a type's halves, ill and well typed in turn as the halves change. */
     private static void typesAreTakenAnew() {
         CHECK.sentence("6: All is laid down anew, with the types as they are");
-        Loom x = new Loom();
-        Pen pen = new Pen(x);
-        x.function(0, 0, 0, 0, 0);
-        int one = pen.number(1);
-        int nil = pen.nil(3);
-        int other = pen.nil(5);
-        // INTs where the left or the right of type 3 is an INT; 5s where it is a 5.
-        int[] lefts = {pen.left(nil), pen.putLeft(nil, one)};
-        int[] rights = {pen.right(nil), pen.putRight(nil, one)};
-        int[] leftPairs = {pen.empty(pen.left(nil)), pen.empty(pen.putLeft(nil, other))};
-        int[] rightPairs = {pen.empty(pen.right(nil)), pen.empty(pen.putRight(nil, other))};
-        int[] made = {pen.empty(pen.pair(3, one, one)), pen.empty(pen.pair(3, other, one)),
-            pen.empty(pen.pair(3, one, other)), pen.empty(pen.pair(3, other, other))};
-        for (int turn = 0; turn < 8; turn++) {
-            boolean left = (turn & 1) == 1;
-            boolean right = (turn & 2) == 2;
-            x.type(3, left ? 5 : 0, right ? 5 : 0);
-            for (int k = 0; k < 2; k++) {
-                lays("left, an INT, " + turn, x, lefts[k], !left);
-                lays("left, a pair, " + turn, x, leftPairs[k], left);
-                lays("right, an INT, " + turn, x, rights[k], !right);
-                lays("right, a pair, " + turn, x, rightPairs[k], right);
-            }
-            for (int k = 0; k < 4; k++) {
-                lays("PAIR " + k + ", " + turn, x, made[k], k == (turn & 3));
+        for (int way = 0; way < 12; way++) {
+            Loom x = new Loom();
+            Pen pen = new Pen(x);
+            x.function(0, 0, 0, 0, 0);
+            x.body(0, askingForHalves(pen, way));
+            for (int turn = 0; turn < 8; turn++) {
+                int left = turn & 1;
+                int right = turn >> 1 & 1;
+                x.type(3, 5 * left, 5 * right);
+                boolean good = way < 4 ? left == way % 2 : way < 8 ? right == way % 2 : 2 * right + left == way - 8;
+                int laid = x.lay();
+                CHECK.due("way " + way + ", turn " + turn, good ? laid > 0 : laid == RootLoom.ILL, true);
             }
         }
     }
 
-    private static void lays(String name, Loom x, int body, boolean good) {
-        x.body(0, body);
-        int laid = x.lay();
-        CHECK.due(name, good ? laid > 0 : laid == RootLoom.ILL, true);
+    /** Ways 0 to 3 ask for the left of type 3, 4 to 7 for its right, the odd ones for a 5, 8 to 11 for both. */
+    private static int askingForHalves(Pen pen, int way) {
+        int one = pen.number(1);
+        int nil = pen.nil(3);
+        int five = pen.nil(5);
+        switch (way) {
+            case 0: return pen.left(nil);
+            case 1: return pen.empty(pen.left(nil));
+            case 2: return pen.putLeft(nil, one);
+            case 3: return pen.empty(pen.putLeft(nil, five));
+            case 4: return pen.right(nil);
+            case 5: return pen.empty(pen.right(nil));
+            case 6: return pen.putRight(nil, one);
+            case 7: return pen.empty(pen.putRight(nil, five));
+            case 8: return pen.empty(pen.pair(3, one, one));
+            case 9: return pen.empty(pen.pair(3, five, one));
+            case 10: return pen.empty(pen.pair(3, one, five));
+            default: return pen.empty(pen.pair(3, five, five));
+        }
     }
 
     private static void functionRanges() {
@@ -264,7 +269,7 @@ public final class PromiseEdgesTest {
             CHECK.due("LET " + part, x.node(11, part, 0, 0), local ? next++ : -1);
             CHECK.due("CALL " + part, x.node(12, part, -1, 0), part == 0 ? next++ : -1);
         }
-        CHECK.sentence("4: NONE .. if there is no such kind");
+        CHECK.sentence("4: there is no such kind");
         for (int kind : new int[] {MIN, -1, 18, 19, MAX}) {
             CHECK.due("kind " + kind, x.node(kind, 0, 0, 0), -1);
         }
@@ -452,6 +457,29 @@ public final class PromiseEdgesTest {
         x.lay();
         CHECK.due("the last of two", thrown(x, 1, 0), 0);
         CHECK.due("what was laid down before is gone", thrown(x, 2, 0), 1);
+    }
+
+    /** One body for each operation that stands alone in it, at its place. */
+    private static void instructionNumbers() {
+        CHECK.sentence("8: its number: 0 PUSH, 1 NULL, 2 LOAD, 3 ADD, 4 SUB, 5 LESS, 6 NEW, 7 LEFT, 8 RIGHT, 9 EMPTY, "
+                + "10 ZERO, 11 JUMP, 12 STORE, 13 CALL, 14 RET, 15 PUTLEFT, 16 PUTRIGHT, 17 PUT, 18 DROP");
+        Loom x = fresh();
+        Pen pen = new Pen(x);
+        x.function(0, 1, 0, 0, 0);
+        int one = pen.number(1);
+        int nil = pen.nil(1);
+        int two = pen.nil(2);
+        int branch = pen.choose(one, one, one);
+        int[] bodies = {one, pen.empty(nil), pen.local(0), pen.add(one, one), pen.sub(one, one), pen.less(one, one),
+            pen.left(pen.pair(1, one, nil)), pen.left(nil), pen.right(two), pen.empty(nil), branch, branch,
+            pen.let(3, one, one), pen.call(0, one), one, pen.putLeft(nil, one), pen.putRight(two, one), pen.out(one),
+            pen.then(one, one)};
+        int[] places = {0, 0, 0, 2, 2, 2, 2, 1, 1, 1, 1, 3, 1, 1, 1, 2, 2, 1, 1};
+        for (int operation = 0; operation < 19; operation++) {
+            x.body(0, bodies[operation]);
+            CHECK.due("lay() for " + operation, x.lay() > 0, true);
+            CHECK.due("operation " + operation, x.instruction(places[operation], 0), operation);
+        }
     }
 
     private static void instructionHasNoA() {
@@ -653,6 +681,24 @@ public final class PromiseEdgesTest {
         }
     }
 
+    private static void runTellsHowItWasOver() {
+        CHECK.sentence("13: how it was over, 1 .. 5");
+        Loom x = fresh();
+        Pen pen = new Pen(x);
+        x.function(0, 1, 0, 0, 0);
+        int n = pen.local(0);
+        int deeper = pen.call(0, pen.sub(n, pen.number(1)));
+        x.body(0, pen.choose(n, pen.add(deeper, deeper), pen.number(1)));
+        int byNil = laidAs(x, 0, pen.right(pen.nil(2)));
+        int byHeap = laidAs(x, 1, pen.list(1, 2));
+        x.heap(5);
+        int[][] runs = {{0, 0}, {byNil, 0}, {byHeap, 0}, {0, 24}, {0, 23}};
+        for (int over = 1; over <= 5; over++) {
+            CHECK.due("over by " + over, x.run(runs[over - 1][0], runs[over - 1][1], 0, 0), over);
+            CHECK.due("over by " + over + ": latest(0)", x.latest(0), over);
+        }
+    }
+
     private static void runRefuses() {
         CHECK.sentence("13: NONE, and nothing happens, if it has no first instruction, or a parameter of a pair type");
         Loom x = fresh();
@@ -705,6 +751,36 @@ public final class PromiseEdgesTest {
         for (int what : all) {
             CHECK.due("latest(" + what + ")", x.latest(what), what >= 0 && what <= 6 ? want[what] : -1);
         }
+    }
+
+    private static void latestMost() {
+        CHECK.sentence("14: 5: the most frames at once");
+        Loom x = fresh();
+        Pen pen = new Pen(x);
+        x.function(0, 1, 0, 0, 0);
+        int n = pen.local(0);
+        x.body(0, pen.choose(n, pen.out(pen.call(0, pen.sub(n, pen.number(1)))), n));
+        int f = laidAs(x, 0, pen.add(pen.call(0, pen.number(3)), pen.call(0, pen.number(1))));
+        CHECK.due("run", x.run(f, 0, 0, 0), 1);
+        CHECK.due("five, then three: the most", x.latest(5), 5);
+        for (int deep = 0; deep <= 23; deep++) {
+            x.run(0, deep, 0, 0);
+            CHECK.due("deep " + deep, x.latest(5), deep + 1);
+        }
+        x.run(0, 0, 0, 0);
+        CHECK.due("one again", x.latest(5), 1);
+        CHECK.sentence("14: 6: how many ints were put out (64 at most)");
+        int g = laidAs(x, 0, pen.sum(pen.call(0, pen.number(16)), 4));
+        CHECK.due("64 PUTs", x.run(g, 0, 0, 0), 1);
+        CHECK.due("64 were put out", x.latest(6), 64);
+        int h = laidAs(x, 0, pen.out(pen.sum(pen.call(0, pen.number(16)), 4)));
+        CHECK.due("65 PUTs", x.run(h, 0, 0, 0), 1);
+        CHECK.due("64 at most", x.latest(6), 64);
+        int i = laidAs(x, 0, pen.sum(pen.call(0, pen.number(21)), 3));
+        CHECK.due("63 PUTs", x.run(i, 0, 0, 0), 1);
+        CHECK.due("63 were put out", x.latest(6), 63);
+        x.run(0, 0, 0, 0);
+        CHECK.due("none", x.latest(6), 0);
     }
 
     private static void latestNever() {

@@ -93,7 +93,7 @@ public final class RefusalTest {
                 withCall(script, at, call);
             }
         }
-        CHECK.sentence("questions change nothing");
+        CHECK.sentence("Nothing is promised beyond the answers and state changes described above", "questions change nothing");
         for (int at = 0; at <= script.size(); at++) {
             List<Call> longer = new ArrayList<>(script);
             longer.addAll(at, questions());

@@ -325,7 +325,7 @@ public final class RunTermsTest {
 
     /** 200 pairs that all stay, at each NEW. */
     private static void manyStay() {
-        CHECK.sentence("those stay that are led to .. the full heap");
+        CHECK.sentence("those stay that are led to", "a full heap");
         Loom x = fresh();
         Pen pen = new Pen(x);
         x.function(1, 2, 0, 1, 0);
@@ -431,7 +431,7 @@ public final class RunTermsTest {
             x.heap(heap);
             runs("six lost ones in " + heap, x, f, 1, 24, collections[heap - 3], words[heap - 3], 0, 1, 0);
         }
-        CHECK.sentence("before a NEW if .. (not before a CALL)");
+        CHECK.sentence("before a NEW if", "not before a CALL");
         int g = laidAs(x, 1, lost);
         int h = laidAs(x, 1, pen.then(lost, pen.call(g)));
         x.heap(3);
@@ -588,7 +588,7 @@ public final class RunTermsTest {
 
     /** What would be done as the 6000th is done, whatever it is; as the 6001st it is not. */
     private static void overByStepsBeforeAllElse() {
-        CHECK.sentence("5 where the 6001st instruction would be done .. whatever that is");
+        CHECK.sentence("5 where the 6001st instruction would be done", "whatever that is");
         for (int late = 0; late <= 1; late++) {
             String name = late == 0 ? "as the 6000th: " : "as the 6001st: ";
             Loom x = spender();

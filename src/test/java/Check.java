@@ -3,6 +3,7 @@ final class Check {
     private final String test;
     private String words = "";
     private int sentences = 0;
+    private int askedBefore = 0;
     private int asked = 0;
     private int wrong = 0;
 
@@ -10,8 +11,12 @@ final class Check {
         this.test = test;
     }
 
-    /** The words of the document by which the answers that follow are due; two dots for words left out. */
+    /**
+     * The words of the document by which the answers that follow are due: a promise's with its number
+     * before them, three dots for words left out. DocumentTest looks for them in the document.
+     */
     void sentence(String quoted) {
+        noSentence();
         words = " [" + quoted + "]";
         sentences++;
     }
@@ -20,6 +25,16 @@ final class Check {
     void sentence(String quoted, String here) {
         sentence(quoted);
         words = " [" + quoted + ", here: " + here + "]";
+    }
+
+    /** What follows is due by no words of the document. */
+    void noSentence() {
+        if (!words.isEmpty() && asked == askedBefore) {
+            wrong++;
+            System.out.println(test + words + ": nothing was asked by these words");
+        }
+        askedBefore = asked;
+        words = "";
     }
 
     void due(String call, long got, long want) {
@@ -39,6 +54,7 @@ final class Check {
     }
 
     void end() {
+        noSentence();
         String told = sentences == 0 ? "" : sentences + " sentences, ";
         System.out.println(test + ": " + told + asked + " answers, " + wrong + " not as due");
         if (wrong != 0) {

@@ -1,8 +1,9 @@
+import java.io.IOException;
 import java.lang.reflect.Constructor;
 import java.lang.reflect.Field;
 import java.lang.reflect.Method;
 import java.lang.reflect.Modifier;
-import java.util.Arrays;
+import java.nio.file.Path;
 import java.util.Set;
 import java.util.TreeSet;
 
@@ -10,32 +11,46 @@ import java.util.TreeSet;
 public final class FaceTest {
     private static final Check CHECK = new Check("FaceTest");
 
-    private static final String[] METHODS = {
-        "boolean type(int,int,int)",
-        "int function(int,int,int,int,int)",
-        "int node(int,int,int,int)",
-        "boolean body(int,int)",
-        "int lay()",
-        "int laid(int)",
-        "int instruction(int,int) throws IndexOutOfBoundsException,IllegalArgumentException",
-        "int entry(int)",
-        "int map(int,int)",
-        "boolean heap(int)",
-        "boolean force(int)",
-        "int run(int,int,int,int)",
-        "int latest(int)",
-        "int out(int)",
-        "int tell(int,int)",
-        "int value(int,int)",
+    private static final String[] FACE = {
+        "public static final int NONE = -1;",
+        "public static final int TOO_LARGE = -2;",
+        "public static final int ILL = -3;",
+        "public RootLoom();",
+        "public boolean type(int t, int left, int right);",
+        "public int function(int result, int parameters, int first, int second, int third);",
+        "public int node(int kind, int a, int b, int c);",
+        "public boolean body(int function, int node);",
+        "public int lay();",
+        "public int laid(int what);",
+        "public int instruction(int i, int what) throws IndexOutOfBoundsException, IllegalArgumentException;",
+        "public int entry(int function);",
+        "public int map(int i, int which);",
+        "public boolean heap(int words);",
+        "public boolean force(int n);",
+        "public int run(int function, int first, int second, int third);",
+        "public int latest(int what);",
+        "public int out(int i);",
+        "public int tell(int path, int n);",
+        "public int value(int path, int n);",
     };
 
-    public static void main(String[] args) {
+    public static void main(String[] args) throws IOException, IllegalAccessException {
+        asTheDocumentWritesIt(Path.of(args.length == 0 ? "." : args[0]));
         classItself();
+        members();
         constants();
-        constructors();
-        methods();
         classesInside();
         CHECK.end();
+    }
+
+    private static void asTheDocumentWritesIt(Path root) throws IOException {
+        Document document = Document.below(root);
+        if (document == null) {
+            System.out.println("FaceTest: there is no ../shared/DOC.md here, so the face was not compared with it");
+            return;
+        }
+        String written = "public final class RootLoom { " + String.join(" ", FACE) + " }";
+        CHECK.due("the document's face is this one", document.named("The public face").words.equals(written), true);
     }
 
     private static void classItself() {
@@ -45,42 +60,49 @@ public final class FaceTest {
         CHECK.due("without a package", RootLoom.class.getPackageName().isEmpty(), true);
     }
 
-    private static void constants() {
-        CHECK.due("NONE", RootLoom.NONE, -1);
-        CHECK.due("TOO_LARGE", RootLoom.TOO_LARGE, -2);
-        CHECK.due("ILL", RootLoom.ILL, -3);
+    private static void members() throws IllegalAccessException {
+        Set<String> due = new TreeSet<>();
+        for (String line : FACE) {
+            due.add(line.replaceAll("int \\w+([,)])", "int$1"));
+        }
         Set<String> seen = new TreeSet<>();
         for (Field field : RootLoom.class.getDeclaredFields()) {
             if (!Modifier.isPrivate(field.getModifiers())) {
-                seen.add(Modifier.toString(field.getModifiers()) + " " + field.getType() + " " + field.getName());
+                seen.add(told(field));
             }
         }
-        same("fields", seen, "public static final int NONE", "public static final int TOO_LARGE",
-                "public static final int ILL");
-    }
-
-    private static void constructors() {
-        Constructor<?>[] made = RootLoom.class.getDeclaredConstructors();
-        CHECK.due("one constructor", made.length, 1);
-        CHECK.due("it is public", Modifier.isPublic(made[0].getModifiers()), true);
-        CHECK.due("it takes nothing", made[0].getParameterCount(), 0);
-    }
-
-    private static void methods() {
-        Set<String> seen = new TreeSet<>();
+        for (Constructor<?> made : RootLoom.class.getDeclaredConstructors()) {
+            seen.add(begun(made.getModifiers()) + "RootLoom(" + names(made.getParameterTypes()) + ");");
+        }
         for (Method method : RootLoom.class.getDeclaredMethods()) {
             if (!Modifier.isPrivate(method.getModifiers())) {
-                CHECK.due(method.getName() + " is public and no more", method.getModifiers(), Modifier.PUBLIC);
                 seen.add(told(method));
             }
         }
-        same("methods", seen, METHODS);
+        for (String one : seen) {
+            CHECK.due(one + " is of the face", due.contains(one), true);
+        }
+        for (String one : due) {
+            CHECK.due(one + " is there", seen.contains(one), true);
+        }
+    }
+
+    private static String begun(int modifiers) {
+        String written = Modifier.toString(modifiers);
+        return written.isEmpty() ? "" : written + " ";
+    }
+
+    private static String told(Field field) throws IllegalAccessException {
+        boolean readable = Modifier.isStatic(field.getModifiers()) && Modifier.isPublic(field.getModifiers());
+        return begun(field.getModifiers()) + field.getType() + " " + field.getName() + " = "
+                + (readable ? field.get(null) : "?") + ";";
     }
 
     private static String told(Method method) {
-        String made = method.getReturnType() + " " + method.getName() + "(" + names(method.getParameterTypes()) + ")";
+        String made = begun(method.getModifiers()) + method.getReturnType() + " " + method.getName() + "("
+                + names(method.getParameterTypes()) + ")";
         Class<?>[] thrown = method.getExceptionTypes();
-        return thrown.length == 0 ? made : made + " throws " + names(thrown);
+        return (thrown.length == 0 ? made : made + " throws " + names(thrown)) + ";";
     }
 
     private static String names(Class<?>[] classes) {
@@ -88,11 +110,33 @@ public final class FaceTest {
         for (int k = 0; k < classes.length; k++) {
             names[k] = classes[k].getSimpleName();
         }
-        return String.join(",", names);
+        return String.join(", ", names);
+    }
+
+    private static void constants() {
+        CHECK.sentence("The constants: `NONE = -1`: None such, or it can't be");
+        RootLoom x = new RootLoom();
+        CHECK.due("NONE", RootLoom.NONE, -1);
+        CHECK.due("none such", x.entry(0), RootLoom.NONE);
+        CHECK.due("it can't be", x.node(18, 0, 0, 0), RootLoom.NONE);
+        CHECK.sentence("`TOO_LARGE = -2`: Too much to be laid down");
+        CHECK.due("TOO_LARGE", RootLoom.TOO_LARGE, -2);
+        x.function(0, 0, 0, 0, 0);
+        int made = x.node(0, 1, 0, 0);
+        for (int k = 0; k < 8; k++) {
+            made = x.node(3, made, made, 0);
+        }
+        x.body(0, made);
+        CHECK.due("512 instructions", x.lay(), RootLoom.TOO_LARGE);
+        CHECK.sentence("`ILL = -3`: Not well typed");
+        CHECK.due("ILL", RootLoom.ILL, -3);
+        x.body(0, x.node(1, 1, 0, 0));
+        CHECK.due("NIL as an INT", x.lay(), RootLoom.ILL);
     }
 
     /** Rules 1, 5 and 11 of the language, as far as the classes tell. */
     private static void classesInside() {
+        CHECK.noSentence();
         Set<String> faceNames = new TreeSet<>();
         for (Method method : RootLoom.class.getMethods()) {
             faceNames.add(method.getName());
@@ -115,16 +159,6 @@ public final class FaceTest {
                 boolean changes = Modifier.isStatic(field.getModifiers()) && !Modifier.isFinal(field.getModifiers());
                 CHECK.due(one.getName() + "." + field.getName() + " is static and changes", changes, false);
             }
-        }
-    }
-
-    private static void same(String what, Set<String> seen, String... want) {
-        Set<String> due = new TreeSet<>(Arrays.asList(want));
-        for (String one : seen) {
-            CHECK.due(what + ": " + one + " is of the face", due.contains(one), true);
-        }
-        for (String one : due) {
-            CHECK.due(what + ": " + one + " is there", seen.contains(one), true);
         }
     }
 }

@@ -50,7 +50,8 @@ public final class LayTermsTest {
     }
 
     private static void localsHaveALetAround() {
-        CHECK.sentence("each LOCAL is a parameter, or has a LET of it around it (in whose c it is)");
+        CHECK.sentence("WELL TYPED is a function if all is as told here: "
+                + "each LOCAL is a parameter, or has a LET of it around it (in whose c it is)");
         Loom x = withOne();
         Pen pen = new Pen(x);
         int one = pen.number(1);
@@ -122,7 +123,7 @@ public final class LayTermsTest {
     }
 
     private static void asManyArgsAsParameters() {
-        CHECK.sentence("has as many ARGs as that has parameters");
+        CHECK.sentence("and has as many ARGs as that has parameters");
         Loom x = fresh();
         Pen pen = new Pen(x);
         x.function(0, 0, 0, 0, 0);
@@ -175,7 +176,8 @@ public final class LayTermsTest {
     }
 
     private static void functionByFunction() {
-        CHECK.sentence("one row of instructions, function by function: the BODY, then RET (nothing for one without)");
+        CHECK.sentence("LAYING DOWN makes one row of instructions, "
+                + "function by function: the BODY, then RET (nothing for one without)");
         Loom x = fresh();
         Pen pen = new Pen(x);
         int one = pen.number(1);
@@ -240,7 +242,7 @@ public final class LayTermsTest {
     }
 
     private static void mostInstructions() {
-        CHECK.sentence("TOO LARGE if there are more than 400 instructions");
+        CHECK.sentence("It is TOO LARGE if there are more than 400 instructions");
         Loom x = withOne();
         Pen pen = new Pen(x);
         int one = pen.number(1);
@@ -406,7 +408,7 @@ public final class LayTermsTest {
         CHECK.due("laid(2)", x.laid(2), 16);
         CHECK.due("run(2)", x.run(2, 0, 0, 0), 1);
         CHECK.due("value", x.value(0, 0), 16 * 9);
-        CHECK.sentence("2: the most values that a pile may have");
+        CHECK.sentence("7: 2: the most values that a pile may have");
         x.body(0, one);
         x.lay();
         CHECK.due("the most of all functions is in the middle", x.laid(2), 9);

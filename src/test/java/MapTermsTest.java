@@ -48,7 +48,8 @@ public final class MapTermsTest {
     }
 
     private static void fromTheOneDoneNext() {
-        CHECK.sentence("if from the one that is done next one can come to a LOAD of it");
+        CHECK.sentence("A local MATTERS behind an instruction "
+                + "if from the one that is done next one can come to a LOAD of it");
         Loom x = fresh();
         Pen pen = new Pen(x);
         int one = pen.number(1);
@@ -336,7 +337,7 @@ public final class MapTermsTest {
     }
 
     private static void typesAsAtLay() {
-        CHECK.sentence("what is laid down stays as it is", "maps");
+        CHECK.sentence("2: what is laid down stays as it is", "maps");
         Loom x = new Loom();
         Pen pen = new Pen(x);
         x.type(1, 0, 1);

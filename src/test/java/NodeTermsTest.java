@@ -84,7 +84,8 @@ public final class NodeTermsTest {
     }
 
     private static void lastCall() {
-        CHECK.sentence("An object is used for at most 512 calls after it has been made");
+        CHECK.sentence("An object is used for at most 512 calls after it has been made; "
+                + "what later calls answer is free");
         Loom x = fresh();
         x.body(0, new Pen(x).number(77));
         while (x.callsLeft() > 4) {
@@ -181,7 +182,7 @@ public final class NodeTermsTest {
     }
 
     private static void noBodyAtFirst() {
-        CHECK.sentence("a BODY, an expression (none at first)");
+        CHECK.sentence("and a BODY, an expression (none at first)");
         Loom x = new Loom();
         Pen pen = new Pen(x);
         x.function(0, 0, 0, 0, 0);
@@ -277,7 +278,7 @@ public final class NodeTermsTest {
     }
 
     private static void numbers() {
-        CHECK.sentence("0 NUMBER a: PUSH a: INT");
+        CHECK.sentence("What they are, what they make when LAID DOWN, and their type: 0 NUMBER a: PUSH a: INT");
         Loom x = fresh();
         Pen pen = new Pen(x);
         for (int a : new int[] {0, 1, -1, -2, -3, MIN, MAX}) {
@@ -338,7 +339,7 @@ public final class NodeTermsTest {
     }
 
     private static void wrapAround() {
-        CHECK.sentence("ADD, SUB, LESS .. as is usual");
+        CHECK.sentence("as is usual: ADD, SUB, LESS");
         Loom x = fresh();
         Pen pen = new Pen(x);
         int max = pen.number(MAX);

@@ -844,7 +844,7 @@ public final class PromiseEdgesTest {
     }
 
     private static void tellRanges() {
-        CHECK.sentence("16: NONE if .. n is not 0 .. 20");
+        CHECK.sentence("16: NONE if ... n is not 0 .. 20");
         Loom x = withList(22);
         for (int n : new int[] {MIN, -1, 0, 1, 19, 20, 21, 22, 32, MAX}) {
             CHECK.due("tell(-1, " + n + ")", x.tell(-1, n), n >= 0 && n <= 20 ? 2 : -1);

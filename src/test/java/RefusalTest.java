@@ -84,7 +84,7 @@ public final class RefusalTest {
 
     public static void main(String[] args) {
         List<Call> script = script();
-        CHECK.sentence("NONE, and nothing happens");
+        CHECK.sentence("4: NONE, and nothing happens, if that is not so");
         answers("the run alone", script);
         List<Call> refused = refused();
         // The last two calls make a function and a node that are refused as parts before.
@@ -93,7 +93,8 @@ public final class RefusalTest {
                 withCall(script, at, call);
             }
         }
-        CHECK.sentence("Nothing is promised beyond the answers and state changes described above", "questions change nothing");
+        CHECK.sentence("Nothing is promised beyond the answers and state changes described above",
+                "questions change nothing");
         for (int at = 0; at <= script.size(); at++) {
             List<Call> longer = new ArrayList<>(script);
             longer.addAll(at, questions());
@@ -347,7 +348,7 @@ public final class RefusalTest {
     }
 
     private static void fullOfFunctions() {
-        CHECK.sentence("NONE if there are 6");
+        CHECK.sentence("3: NONE if there are 6");
         Consumer<Loom> six = x -> {
             x.type(1, 0, 1);
             int n = x.node(2, 1, 0, 0);
@@ -367,7 +368,7 @@ public final class RefusalTest {
     }
 
     private static void fullOfNodes() {
-        CHECK.sentence("NONE, and nothing happens, if .. there are 150");
+        CHECK.sentence("4: NONE, and nothing happens, if ... or there are 150");
         Consumer<Loom> full = x -> {
             x.function(0, 1, 0, 0, 0);
             x.node(2, 0, 0, 0);

@@ -128,7 +128,7 @@ public final class RunTermsTest {
     }
 
     private static void stayByLocals() {
-        CHECK.sentence("those stay that are led to from the maps' locals");
+        CHECK.sentence("COLLECTED: of all PAIRs those stay that are led to from the maps' locals");
         Loom x = fresh();
         Pen pen = new Pen(x);
         int one = pen.number(1);
@@ -185,7 +185,7 @@ public final class RunTermsTest {
 
     /** 24 frames, each with a pair in a local and one on the pile below the CALL. */
     private static void othersByTheirCalls() {
-        CHECK.sentence("frame by frame .. the others by those of their CALLs");
+        CHECK.sentence("frame by frame, ... the others by those of their CALLs");
         Loom x = fresh();
         Pen pen = new Pen(x);
         x.function(0, 1, 0, 0, 0);
@@ -306,7 +306,7 @@ public final class RunTermsTest {
     }
 
     private static void typesAsAtLay() {
-        CHECK.sentence("(what is laid down stays as it is)");
+        CHECK.sentence("2: (what is laid down stays as it is)");
         Loom x = fresh();
         Pen pen = new Pen(x);
         int lost = pen.pair(1, pen.number(1), pen.nil(1));
@@ -420,7 +420,7 @@ public final class RunTermsTest {
     }
 
     private static void threeMoreAboveTheHeap() {
-        CHECK.sentence("before a NEW if the words of the PAIRs that are there and 3 more are above the heap's");
+        CHECK.sentence("and before a NEW if the words of the PAIRs that are there and 3 more are above the heap's");
         Loom x = fresh();
         Pen pen = new Pen(x);
         int lost = pen.pair(1, pen.number(1), pen.nil(1));
@@ -456,7 +456,7 @@ public final class RunTermsTest {
     }
 
     private static void overByResult() {
-        CHECK.sentence("1 when the first frame ends, its RET's value is the RESULT");
+        CHECK.sentence("A run is over: 1 when the first frame ends, its RET's value is the RESULT");
         Loom x = fresh();
         Pen pen = new Pen(x);
         int g = laidAs(x, 0, pen.number(5));

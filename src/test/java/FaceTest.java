@@ -72,7 +72,9 @@ public final class FaceTest {
             }
         }
         for (Constructor<?> made : RootLoom.class.getDeclaredConstructors()) {
-            seen.add(begun(made.getModifiers()) + "RootLoom(" + names(made.getParameterTypes()) + ");");
+            if (!Modifier.isPrivate(made.getModifiers())) {
+                seen.add(begun(made.getModifiers()) + "RootLoom(" + names(made.getParameterTypes()) + ");");
+            }
         }
         for (Method method : RootLoom.class.getDeclaredMethods()) {
             if (!Modifier.isPrivate(method.getModifiers())) {
